@@ -18,8 +18,15 @@ final class Due {
         try {
             return Long.toString(call.answer());
         } catch (RuntimeException thrown) {
-            return thrown.getClass().getSimpleName();
+            String name = thrown.getClass().getSimpleName();
+            return thrownByStatement(thrown) ? name : "by itself " + name;
         }
+    }
+
+    /** An exception of the library starts in the library; one of a throw statement in the class or the model. */
+    private static boolean thrownByStatement(RuntimeException thrown) {
+        StackTraceElement[] calls = thrown.getStackTrace();
+        return calls.length > 0 && calls[0].getClassName().matches("(FieldStore|Model)([$].*)?");
     }
 
     static void answers(String what, long due, Call call) {
