@@ -7,13 +7,7 @@ public final class ModelTest {
     private static final int RUNS = 3000;
     private static final int CALLS = 512;
     private static final int[] ODD = {Integer.MIN_VALUE, Integer.MIN_VALUE + 999, -1000, -1, 2, 3, 4, 10, 40, 41, 100, 101, 999, 1000, 10000, 10001, Integer.MAX_VALUE};
-    private static final Map<String, Integer> ARGUMENTS = Map.ofEntries(
-        Map.entry("add", 2), Map.entry("give", 2), Map.entry("set", 3), Map.entry("jobs", 0), Map.entry("crew", 1),
-        Map.entry("site", 1), Map.entry("value", 2), Map.entry("version", 2), Map.entry("setRoom", 2), Map.entry("fetch", 1),
-        Map.entry("held", 1), Map.entry("holds", 2), Map.entry("heldValue", 3), Map.entry("change", 4), Map.entry("make", 2),
-        Map.entry("numberOf", 2), Map.entry("send", 2), Map.entry("waiting", 1), Map.entry("pile", 1), Map.entry("reason", 2),
-        Map.entry("refusedValue", 2), Map.entry("done", 0));
-    private static final String[] NAMES = new TreeMap<>(ARGUMENTS).keySet().toArray(new String[0]);
+    private static final String[] NAMES = new TreeMap<>(Calls.ARGUMENTS).keySet().toArray(new String[0]);
     // Calls that change something come more often than those that ask.
     private static final String[] ACTING = {
         "add", "add", "give", "set", "set", "setRoom", "fetch", "fetch", "change", "change", "change", "change", "change", "make", "send", "send",
@@ -45,7 +39,7 @@ public final class ModelTest {
             int[] a = arguments(call, style);
             String name = call;
             String due = Due.outcome(() -> model.answer(name, a));
-            String got = Due.outcome(() -> answer(store, name, a));
+            String got = Due.outcome(() -> Calls.answer(store, name, a));
             seen.merge(call + " " + due, 1, Integer::sum);
             Due.same("run " + run + " call " + i + ": " + call + Arrays.toString(a), due, got);
             if (!due.equals(got)) {
@@ -55,7 +49,7 @@ public final class ModelTest {
     }
 
     private static int[] arguments(String call, int style) {
-        int[] a = new int[ARGUMENTS.get(call)];
+        int[] a = new int[Calls.ARGUMENTS.get(call)];
         int jobs = style == 1 ? 4 : 40;
         boolean device = "setRoom fetch held holds heldValue change make numberOf send waiting pile reason refusedValue".contains(call);
         for (int i = 0; i < a.length; i++) {
@@ -94,33 +88,5 @@ public final class ModelTest {
     private static int next(int below) {
         seed = seed * 6364136223846793005L + 1442695040888963407L;
         return (int) Math.floorMod(seed >>> 33, (long) below);
-    }
-
-    private static long answer(FieldStore x, String call, int[] a) {
-        switch (call) {
-            case "add": return x.add(a[0], a[1]);
-            case "give": return x.give(a[0], a[1]);
-            case "set": return x.set(a[0], a[1], a[2]);
-            case "jobs": return x.jobs();
-            case "crew": return x.crew(a[0]);
-            case "site": return x.site(a[0]);
-            case "value": return x.value(a[0], a[1]);
-            case "version": return x.version(a[0], a[1]);
-            case "setRoom": return x.setRoom(a[0], a[1]);
-            case "fetch": return x.fetch(a[0]);
-            case "held": return x.held(a[0]);
-            case "holds": return Due.bit(x.holds(a[0], a[1]));
-            case "heldValue": return x.heldValue(a[0], a[1], a[2]);
-            case "change": return x.change(a[0], a[1], a[2], a[3]);
-            case "make": return x.make(a[0], a[1]);
-            case "numberOf": return x.numberOf(a[0], a[1]);
-            case "send": return x.send(a[0], a[1]);
-            case "waiting": return x.waiting(a[0]);
-            case "pile": return x.pile(a[0]);
-            case "reason": return x.reason(a[0], a[1]);
-            case "refusedValue": return x.refusedValue(a[0], a[1]);
-            case "done": return x.done();
-            default: throw new AssertionError(call);
-        }
     }
 }
